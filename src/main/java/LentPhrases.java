@@ -949,7 +949,7 @@ public final class LentPhrases {
         private static final int MOST_NUMBERS = 4;
 
         private final int[] numbers = new int[MOST_NUMBERS];
-        private char letter;
+        private int letter;
         private int amount;
         int end;
 

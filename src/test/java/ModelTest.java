@@ -7,7 +7,7 @@ import java.util.TreeMap;
 
 /** Runs of calls drawn from fixed seeds, answered by the class and by the Model. */
 public final class ModelTest {
-    private static final int RUNS = Integer.getInteger("runs", 1500);
+    private static final int RUNS = Integer.getInteger("runs", 900);
     private static final int CALLS = 512;
     private static final int[] FAR = {Integer.MIN_VALUE, Integer.MIN_VALUE + 1, -100001, -65536, -2, -1, 100, 255,
         1000, 10000, 65536, Integer.MAX_VALUE - 1, Integer.MAX_VALUE};

@@ -8,6 +8,7 @@ public final class SnapshotUndoTest {
         undoOfFour();
         errorsAreNoChanges();
         undoLeavesTextAndSnapshot();
+        nothingIsLeftOfWhatWasUndone();
         Checks.finish("SnapshotUndoTest");
     }
 
@@ -150,5 +151,30 @@ public final class SnapshotUndoTest {
         x.restore();
         Checks.due(23, "the kept client", x.count(0), 1);
         Checks.due(23, "the text stays", x.count(9), 4);
+    }
+
+    private static void nothingIsLeftOfWhatWasUndone() {
+        LentPhrases x = Checks.twoBooks();
+        x.place(0, 0, 0);
+        x.keep();
+        String kept = Checks.all(x);
+        x.phrase(1, 7, 9, -1);
+        x.place(2, 0, 0);
+        x.lend(2, 1, 0, 3);
+        x.pass(3);
+        x.chapter(0, 9, 9);
+        x.client(0, 99);
+        Checks.due(24, "alike(0) before", x.alike(0), 1);
+        Checks.due(23, "restore()", x.restore(), 2);
+        Checks.due(23, "alike(0) then", x.alike(0), 0);
+        Checks.due(23, "tells(0, 15) then", x.tells(0, 15), 0);
+        Checks.due(23, "on(0, 0, 1) then", x.on(0, 0, 1), Checks.NOT_FOUND);
+        Checks.due(23, "find(7, 9, -1) then", x.find(7, 9, -1), Checks.NOT_FOUND);
+        Checks.holds("all is as it was", kept.equals(Checks.all(x)));
+        x.phrase(3, 7, 9, 9);
+        Checks.due(23, "a new one is free", x.phraseOf(2, 4), Checks.NOT_FOUND);
+        Checks.due(23, "a new one was not lent so far", x.phraseOf(2, 10), 0);
+        Checks.due(23, "a new one is not lent", x.phraseOf(2, 7), Checks.NOT_FOUND);
+        Checks.due(23, "a new one has no home", x.phraseOf(2, 8), Checks.NOT_FOUND);
     }
 }

@@ -43,6 +43,9 @@ public final class TextsTest {
         Checks.type(x, "d");
         Checks.due(26, "nothing of the old text", x.fault(1), 1);
         Checks.due(26, "clearing is no change", x.count(8), 0);
+        Checks.retype(x, "d1;d2;");
+        Checks.retype(x, "d1");
+        Checks.due(26, "no sign of the old text", x.fault(1), 1);
     }
 
     private static void faultOfForm() {

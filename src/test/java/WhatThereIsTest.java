@@ -198,6 +198,7 @@ public final class WhatThereIsTest {
         Checks.due(18, "alike(3), with another first word", x.alike(3), 0);
         x.pass(4);
         Checks.due(18, "alike(0), at home", x.alike(0), 3);
+        Checks.due(18, "alike(1), with phrase 0 at home", x.alike(1), 3);
     }
 
     private static void count() {
