@@ -224,6 +224,9 @@ public final class WhatThereIsTest {
         x.phrase(0, 32, -1, -1);
         x.phrase(0, 0, -1, -1);
         Checks.due(19, "unlike first words", x.count(11), 6);
+        LentPhrases y = new LentPhrases();
+        y.phrase(0, 5, -1, -1);
+        Checks.due(19, "the first word of one", y.count(11), 1);
     }
 
     private static void queriesChangeNothing() {
