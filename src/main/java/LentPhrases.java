@@ -800,15 +800,10 @@ public final class LentPhrases {
         }
 
         int tellsIn(int client, int voices) {
-            Client asked = clientAt(client);
-            if (asked == null) {
-                return 0;
-            }
             int found = 0;
             for (int i = 0; i < phraseCount; i++) {
-                int voice = phrases[i].voice;
-                boolean known = (voices >> voice & 1) == 1;
-                if (known && voice != asked.voice && holderOf(phrases[i].chapter) == client) {
+                boolean known = (voices >> phrases[i].voice & 1) == 1;
+                if (known && isTell(phrases[i]) && holderOf(phrases[i].chapter) == client) {
                     found++;
                 }
             }
@@ -817,10 +812,18 @@ public final class LentPhrases {
 
         int tellsInAll() {
             int found = 0;
-            for (int i = 0; i < clientCount; i++) {
-                found += tellsIn(i, ALL_VOICES);
+            for (int i = 0; i < phraseCount; i++) {
+                if (isTell(phrases[i])) {
+                    found++;
+                }
             }
             return found;
+        }
+
+        /** A free phrase is in no book, so it is no tell. */
+        private boolean isTell(Phrase phrase) {
+            Client holder = clientAt(holderOf(phrase.chapter));
+            return holder != null && holder.voice != phrase.voice;
         }
 
         int othersLike(int number) {
