@@ -243,7 +243,7 @@ public final class LentPhrases {
         switch (what) {
             case 0: return reading.position;
             case 1: return reading.reason;
-            default: return reading.reason == Reading.NO_ORDER ? NOT_FOUND : reading.cause;
+            default: return reading.cause;
         }
     }
 
@@ -1022,7 +1022,7 @@ public final class LentPhrases {
 
     /** What a text's orders come to: how many are done, and the fault of the first that is not possible. */
     private static final class Reading {
-        static final int NO_ORDER = 1;
+        private static final int NO_ORDER = 1;
         private static final int REFUSED = 2;
 
         private final Order order = new Order();
@@ -1041,26 +1041,22 @@ public final class LentPhrases {
             int start = 0;
             // No text has more orders than characters.
             for (int i = 0; i < Text.MOST_SIGNS && start < text.length && !hasFault(); i++) {
-                rehearseOrder(text, start, state);
+                boolean formed = order.read(text, start);
+                // No call is made for what is no order, so none returns an error that could be told.
+                int answer = formed ? order.carryOut(state) : NOT_FOUND;
+                if (answer < 0) {
+                    report(start, formed ? REFUSED : NO_ORDER, answer);
+                } else {
+                    orders++;
+                }
                 start = order.end;
             }
         }
 
-        private void rehearseOrder(Text text, int start, State state) {
-            if (!order.read(text, start)) {
-                position = start;
-                reason = NO_ORDER;
-                cause = NONE;
-                return;
-            }
-            int answer = order.carryOut(state);
-            if (answer < 0) {
-                position = start;
-                reason = REFUSED;
-                cause = answer;
-                return;
-            }
-            orders++;
+        private void report(int start, int why, int error) {
+            position = start;
+            reason = why;
+            cause = error;
         }
     }
 }
